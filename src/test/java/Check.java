@@ -5,14 +5,20 @@ final class Check {
     static final int THROWN = Integer.MIN_VALUE;
 
     private static int wrong = 0;
+    private static String sentence = "";
 
     private Check() {
+    }
+
+    /** The document's sentence that the answers from here on are due by. */
+    static void sentence(String words) {
+        sentence = "'" + words + "': ";
     }
 
     static void due(String call, long got, long want) {
         if (got != want) {
             wrong++;
-            System.out.println(call + " answered " + got + ", due is " + want);
+            System.out.println(sentence + call + " answered " + got + ", due is " + want);
         }
     }
 
@@ -63,6 +69,64 @@ final class Check {
         due("typing " + shown(text), typed(desk, text), true);
         due("reading " + shown(text), read(desk, kind), THROWN);
         due("fault of " + shown(text), desk.fault(), fault);
+    }
+
+    /** Good, and told(what) is as due. */
+    static void tells(int kind, String text, int what, int want) {
+        HeadDesk desk = having(kind, text);
+        due("fault of " + shown(text), desk.fault(), HeadDesk.NONE);
+        due("told(" + what + ") of " + shown(text), desk.told(what), want);
+    }
+
+    static String row(String part, String between, int many) {
+        StringBuilder row = new StringBuilder();
+        for (int i = 0; i < many; i++) {
+            row.append(i == 0 ? "" : between).append(part);
+        }
+        return row.toString();
+    }
+
+    /** The word with one letter changed, at each place in turn. */
+    static String[] nearly(String word) {
+        String[] all = new String[word.length()];
+        for (int at = 0; at < all.length; at++) {
+            char letter = word.charAt(at) == 'x' ? 'y' : 'x';
+            all[at] = word.substring(0, at) + letter + word.substring(at + 1);
+        }
+        return all;
+    }
+
+    /** A TEXT of the first LINE and each of these others is good, and tells what the first LINE alone tells. */
+    static void countsNothing(int kind, String start, String... lines) {
+        String plain = answers(having(kind, start + "\n"));
+        for (String line : lines) {
+            same(shown(line), answers(having(kind, start + line + "\n\n")), plain);
+        }
+    }
+
+    /** What the latest good TEXT answers, in one line: 65 calls. */
+    static String answers(HeadDesk desk) {
+        StringBuilder all = new StringBuilder();
+        for (int what = -1; what <= 18; what++) {
+            all.append(desk.told(what)).append(' ');
+        }
+        for (int version = -1; version <= 10; version++) {
+            all.append(desk.matches(version) ? 'y' : 'n');
+        }
+        int[] lengths = {-1, 0, 1, 2, 9, 10, 11, 100, 254, 255, 256};
+        for (int length : lengths) {
+            for (int what = 0; what <= 2; what++) {
+                all.append(' ').append(desk.bytes(length, what));
+            }
+        }
+        return all.toString();
+    }
+
+    static void same(String call, String got, String want) {
+        if (!got.equals(want)) {
+            wrong++;
+            System.out.println(sentence + call + " answered " + got + ", due is " + want);
+        }
     }
 
     static String shown(String text) {
