@@ -6,15 +6,15 @@ public final class HeadDesk {
     private static final int THING = 1;
     private static final int MOST_BYTES = 255;
 
-    private final Tape tape;
     private final Reader reader;
+    private final Tape tape;
     private Head good;
     private int goodTexts;
     private int latestFault;
 
     public HeadDesk() {
-        tape = new Tape();
-        reader = new Reader(tape);
+        reader = new Reader();
+        tape = reader.tape;
         good = new Head();
         goodTexts = 0;
         latestFault = NONE;
@@ -229,7 +229,8 @@ public final class HeadDesk {
         // A LINE with a NAME takes three characters at the least.
         private static final int MOST_NAMES = Tape.MOST / 3;
 
-        private final Tape tape;
+        // The reader makes the tape itself, so that no constructor hands out a part of its object.
+        final Tape tape = new Tape();
         private final int[] nameStarts = new int[MOST_NAMES];
         private final int[] nameEnds = new int[MOST_NAMES];
         private Head draft = new Head();
@@ -240,10 +241,6 @@ public final class HeadDesk {
         private int number = 0;
         private int wordStart = 0;
         private int wordEnd = 0;
-
-        Reader(Tape tape) {
-            this.tape = tape;
-        }
 
         int stuckAt() {
             return stuck;
